@@ -1,0 +1,44 @@
+import java.util.concurrent.Callable;
+
+/** Counts the answers that are not the ones that are due, and ends the test by that. */
+final class Check {
+    private static int checks = 0;
+    private static int wrong = 0;
+
+    private Check() {
+    }
+
+    static void due(String what, Object got, Object want) {
+        checks++;
+        if (!String.valueOf(got).equals(String.valueOf(want))) {
+            wrong++;
+            if (wrong <= 50) {
+                System.out.println(what + " answered " + got + ", due is " + want);
+            }
+        }
+    }
+
+    static void dueThrow(String what, Callable<?> call, Class<? extends Exception> want) {
+        due(what, answer(call), "throws." + want.getSimpleName());
+    }
+
+    /** What a call answers: its value, or throws. and the exception's name. */
+    static String answer(Callable<?> call) {
+        try {
+            return String.valueOf(call.call());
+        } catch (Exception e) {
+            return "throws." + e.getClass().getSimpleName();
+        }
+    }
+
+    static boolean isAllRight() {
+        return wrong == 0;
+    }
+
+    static void end() {
+        System.out.println(checks + " checks, " + wrong + " wrong");
+        if (wrong != 0 || checks == 0) {
+            System.exit(1);
+        }
+    }
+}

@@ -15,7 +15,7 @@ final class RoomTest {
         run("one ring", RoomTest::oneRing);
         run("holes that meet at one point", RoomTest::holesAtOnePoint);
         run("small polygons", RoomTest::smallPolygons);
-        run("a judging for every third call", RoomTest::manyJudgings);
+        run("a judging for every fourth call", RoomTest::manyJudgings);
         run("one judging after another", RoomTest::judgeAgain);
         Check.end();
     }
@@ -46,8 +46,6 @@ final class RoomTest {
 
     private static void holesAtOnePoint() {
         ShapeJudge judge = new ShapeJudge();
-        Draw.on(judge, "POLYGON()");
-        judge.clear();
         judge.open(3);
         judge.ring();
         judge.point(0, 0);
@@ -89,7 +87,7 @@ final class RoomTest {
             judge.judge();
             judge.clear();
         }
-        Check.due("a judging for every third call", judge.clear(), 0);
+        Check.due("a judging for every fourth call", judge.clear(), 0);
     }
 
     private static void judgeAgain() {

@@ -2,10 +2,16 @@ import java.util.concurrent.Callable;
 
 /** Counts the answers that are not the ones that are due, and ends the test by that. */
 final class Check {
+    private static String about = "";
     private static int checks = 0;
     private static int wrong = 0;
 
     private Check() {
+    }
+
+    /** What the next checks are about: it is printed before a wrong answer. */
+    static void about(String sentence) {
+        about = "[" + sentence + "] ";
     }
 
     static void due(String what, Object got, Object want) {
@@ -13,7 +19,7 @@ final class Check {
         if (!String.valueOf(got).equals(String.valueOf(want))) {
             wrong++;
             if (wrong <= 50) {
-                System.out.println(what + " answered " + got + ", due is " + want);
+                System.out.println(about + what + " answered " + got + ", due is " + want);
             }
         }
     }
@@ -29,6 +35,10 @@ final class Check {
         } catch (Exception e) {
             return "throws." + e.getClass().getSimpleName();
         }
+    }
+
+    static int count() {
+        return checks;
     }
 
     static boolean isAllRight() {

@@ -359,7 +359,7 @@ public final class ShapeJudge {
         }
     }
 
-    /** The smallest upright box round some points: most things are apart because their boxes are. */
+    /** The smallest upright box round some points: most things are apart since their boxes are. */
     private static final class Box {
         private int lowX = Integer.MAX_VALUE;
         private int lowY = Integer.MAX_VALUE;
@@ -594,7 +594,7 @@ public final class ShapeJudge {
             return false;
         }
 
-        /** Whether no ring before the one with this number has a corner where the segment begins. */
+        /** Whether no ring before the one of this number has a corner where the segment begins. */
         private boolean isNewCorner(int number, Segment segment) {
             for (int i = 0; i < number && i < rings.length; i++) {
                 if (rings[i].box.has(segment.fromX, segment.fromY)

@@ -595,14 +595,12 @@ final class TermsTest {
             Calls.repeat(4092, () -> judge.ring());
         };
         Consumer<ShapeJudge> fiftyAndNoNumbers = judge -> {
-            noNumbers.accept(judge);
-            judge.close();
-            judge.clear();
             judge.open(7);
             Calls.repeat(1998, () -> Calls.empty(judge, 7));
             Calls.repeat(49, () -> judge.open(7));
         };
-        Check.due("numbers of the latter", Calls.made(fiftyAndNoNumbers).clear(), 4096);
+        Check.due("no numbers are left", Calls.made(noNumbers).clear(), 4096);
+        Check.due("no numbers are left", Calls.made(fiftyAndNoNumbers).clear(), 4096);
         // open(): no such kind before all others; no place for it before too many numbers.
         Calls.dueRefused("no kind, a whole one", judge -> Calls.empty(judge, 1), j -> j.open(8),
                 Calls.ARGUMENT);

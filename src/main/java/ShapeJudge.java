@@ -361,10 +361,10 @@ public final class ShapeJudge {
 
     /** The smallest upright box round some points: most things are apart since their boxes are. */
     private static final class Box {
-        private int lowX = Integer.MAX_VALUE;
-        private int lowY = Integer.MAX_VALUE;
-        private int highX = Integer.MIN_VALUE;
-        private int highY = Integer.MIN_VALUE;
+        private int lowX = MAX_COORDINATE;
+        private int lowY = MAX_COORDINATE;
+        private int highX = -MAX_COORDINATE;
+        private int highY = -MAX_COORDINATE;
 
         void take(int x, int y) {
             lowX = Math.min(lowX, x);

@@ -32,6 +32,11 @@ final class Draw {
         return judge;
     }
 
+    /** The number of a kind, -1 for a name that none has. */
+    static int kind(String name) {
+        return KINDS.indexOf(name);
+    }
+
     /** What is wrong, and all the places, in one text. */
     static String verdict(ShapeJudge judge) {
         StringBuilder told = new StringBuilder();
@@ -44,7 +49,7 @@ final class Draw {
 
     private void named() {
         int bracket = text.indexOf('(', at);
-        int kind = KINDS.indexOf(text.substring(at, bracket));
+        int kind = kind(text.substring(at, bracket));
         if (kind < 1) {
             throw new IllegalStateException("no kind at " + text.substring(at));
         }

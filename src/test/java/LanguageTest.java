@@ -9,6 +9,8 @@ import java.util.Arrays;
 import java.util.List;
 import java.util.Set;
 import java.util.TreeSet;
+import java.util.regex.Matcher;
+import java.util.regex.Pattern;
 
 /** The public face, and those rules of LANGUAGE.md that can be read off the class and its text. */
 final class LanguageTest {
@@ -128,5 +130,67 @@ final class LanguageTest {
                 Check.due("a character", c, "below 256");
             }
         }
+        library(code);
+        exceptions(code);
+        lengths(code);
+    }
+
+    /** Rule 4: what the class takes from the library stands in the list there. */
+    private static void library(String code) {
+        Set<String> listed = Set.of("Math.max(", "Math.min(", "Arrays.copyOf(", "Arrays.fill(");
+        String classes = "Math|Integer|Long|Short|Byte|Character|Boolean|String|Arrays|System|List";
+        for (String use : found("\\b(?:" + classes + ")\\s*\\.\\s*\\w+\\s*\\(?",
+                code.replace("import java.util.Arrays;", ""))) {
+            String bare = use.replaceAll("\\s", "");
+            Check.due("the library's list has " + bare, listed.contains(bare), true);
+        }
+    }
+
+    /** Rule 6: which exceptions are thrown, each made where it is thrown, with a written text. */
+    private static void exceptions(String code) {
+        Set<String> made = new TreeSet<>(found("throw\\b[^;]*;", code));
+        Set<String> want = new TreeSet<>();
+        for (String name : List.of("IllegalArgumentException", "IllegalStateException",
+                "IndexOutOfBoundsException", "UnsupportedOperationException")) {
+            want.add("throw new " + name + "(\"\");");
+        }
+        Check.due("what is thrown", made, want);
+    }
+
+    /** Rule 11: a method stays short. */
+    private static void lengths(String code) {
+        String[] lines = code.split("\n");
+        int methods = 0;
+        for (int i = 0; i < lines.length; i++) {
+            if (!beginsMethod(lines[i])) {
+                continue;
+            }
+            methods++;
+            String end = lines[i].replaceAll("\\S.*", "") + "}";
+            int behind = i + 1;
+            while (behind < lines.length && !lines[behind].equals(end)) {
+                behind++;
+            }
+            Check.due("sixty lines are enough for" + lines[i], behind - i < 60, true);
+        }
+        int named = 0;
+        for (Class<?> one : allClasses()) {
+            named += one.getDeclaredMethods().length;
+        }
+        Check.due("all methods were looked at", methods >= named, true);
+    }
+
+    /** Methods stand at the indent 4 in the outer class, at 8 in those inside; so may an if. */
+    private static boolean beginsMethod(String line) {
+        return line.matches("( {4}| {8})[A-Za-z][^=;]*\\([^=;]*");
+    }
+
+    private static List<String> found(String pattern, String code) {
+        List<String> all = new ArrayList<>();
+        Matcher matcher = Pattern.compile(pattern).matcher(code);
+        while (matcher.find()) {
+            all.add(matcher.group());
+        }
+        return all;
     }
 }
